@@ -1168,13 +1168,15 @@ public final class CardsGone {
     }
 
     private void push(int v) {
-      set(stack, top, v);
+      if (top >= stack.length) return;
+      stack[top] = v;
       top++;
     }
 
     private int pop() {
-      if (top > 0) top--;
-      return at(stack, top);
+      if (top <= 0) return 0;
+      top--;
+      return stack[top];
     }
 
     private static int joined(int a, int sign, int b) {
