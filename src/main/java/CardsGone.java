@@ -21,7 +21,6 @@ public final class CardsGone {
   private final Reader reader = new Reader();
   private final Body[] bodies = new Body[PLAYERS];
   private final Deal[] deals = new Deal[LED_HANDS];
-  private final int[] ledRules = new int[RULES];
   private final int[] askedLeft = new int[VALUES + 1];
   private final Shelf[] shelves = new Shelf[SHELVES];
   private final Changes changes = new Changes();
@@ -128,7 +127,6 @@ public final class CardsGone {
     Body body = bodyAt(player);
     if (body == null || n < 1 || n > LED_HANDS) return VOID;
     ledHands = 0;
-    for (int i = 0; i < RULES; i++) set(ledRules, i, at(game.rules, i));
     int brought = 0;
     for (int i = 0; i < n && mayPlay(body); i++) {
       Deal deal = i < deals.length ? deals[i] : null;
@@ -198,9 +196,9 @@ public final class CardsGone {
 
   public int says() {
     if (ledHands == 0) return VOID;
-    for (int i = 0; i < ledHands && i < deals.length; i++) {
-      Deal deal = deals[i];
-      if (deal != null) deal.worth = odds.load(deal.left, ledRules) ? odds.handWorth() : 0;
+    for (int i = 0; i < ledHands; i++) {
+      Deal deal = dealAt(i);
+      if (deal != null) deal.worth = odds.load(deal.left, game.rules) ? odds.handWorth() : 0;
     }
     int sum = 0;
     for (int i = 0; i < ledHands; i++) {

@@ -158,34 +158,49 @@ public final class LeftTest {
     for (int d = 1; d <= 10; d++) Due.due("COST at 12", x.cost(12, d, 1), model.cost(12, d, 1));
   }
 
+  /** The same HANDS are played apart one by one, so that what was LEFT ahead of each can be asked. */
   private static void says() {
-    CardsGone x = new CardsGone();
-    x.player(2, 9999, 0);
+    CardsGone x = counting(), apart = counting();
     Due.due("says() without HANDS", x.says(), Due.VOID);
-    Due.text(x, 1, "v=1|v=10?-1;v<7");
-    x.shoe(1, 1);
-    int[] t = new int[40], worth = new int[40];
-    CardsGone apart = new CardsGone();
-    apart.player(2, 9999, 0);
-    Due.text(apart, 1, "v=1|v=10?-1;v<7");
-    apart.shoe(1, 1);
-    apart.shoe(2, 95);
-    x.shoe(2, 95);
-    int many = 5;
+    int many = 9;
+    int[] t = new int[many];
+    int[][] left = new int[many][11];
     x.play(0, many);
-    int due = 0;
     for (int h = 0; h < many; h++) {
-      worth[h] = apart.whole();
+      for (int v = 1; v <= 10; v++) left[h][v] = apart.left(v);
       apart.play(0, 1);
-      if (apart.led(0, 5) == 0 && h > 0 && apart.left(12) == 1 + apart.led(0, 2) + apart.led(0, 3)) worth[h] = -10866;
+      boolean shuffled = apart.left(12) == 1 + apart.led(0, 2) + apart.led(0, 3);
+      for (int v = 1; v <= 10 && shuffled; v++) left[h][v] = v == 10 ? 16 : 4;
       t[h] = apart.led(0, 5);
       Due.due("t as it began", x.led(h, 5), t[h]);
-      for (int j = 0; j < h; j++) due += Integer.signum(t[h] - t[j]) * Integer.signum(worth[h] - worth[j]);
     }
-    Due.due("says()", x.says(), due);
-    Due.due("says() once more", x.says(), due);
+    int[] first = {0, 150, 1, 17}, other = {1, 110, 0, 19};
+    Due.due("says()", x.says(), pairs(t, left, first));
+    for (int i = 0; i < 4; i++) x.rule(i, other[i]);
+    Due.due("says() by RULES as they are", x.says(), pairs(t, left, other));
+    Due.isSo("they say another thing", pairs(t, left, first) != pairs(t, left, other));
     x.purse(0, 0);
     x.play(0, 1);
     Due.due("says() with no HANDS again", x.says(), Due.VOID);
+  }
+
+  private static CardsGone counting() {
+    CardsGone x = new CardsGone();
+    x.player(2, 9999, 0);
+    x.shoe(1, 1);
+    x.shoe(2, 95);
+    Due.text(x, 1, "v=1|v=10?-1;v<7");
+    return x;
+  }
+
+  private static int pairs(int[] t, int[][] left, int[] rules) {
+    int sum = 0;
+    for (int h = 0; h < t.length; h++) {
+      for (int j = 0; j < h; j++) {
+        long more = Model.wholeBy(left[h], rules) - Model.wholeBy(left[j], rules);
+        sum += Integer.signum(t[h] - t[j]) * Long.signum(more);
+      }
+    }
+    return sum;
   }
 }

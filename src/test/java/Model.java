@@ -275,7 +275,7 @@ final class Model {
 
   static final class Led {
     int bet, brought, t, c, points, without, misdeal, w;
-    int[] left, rules;
+    int[] left;
     final List<Integer> mine = new ArrayList<>(), theirs = new ArrayList<>();
     final List<Hand> asked = new ArrayList<>();
     final List<Integer> made = new ArrayList<>();
@@ -440,7 +440,6 @@ final class Model {
     led.t = trueCount();
     led.c = counted;
     led.left = leftNow();
-    led.rules = rules.clone();
     led.bet = betOf(p);
     try {
       run(p, led, new Source(), p.kind == 7 && (p.hands + 1) % 3 == 0);
@@ -671,7 +670,7 @@ final class Model {
   public int says() {
     if (ledHands.isEmpty()) return VOID;
     long[] worth = new long[ledHands.size()];
-    for (int i = 0; i < worth.length; i++) worth[i] = wholeBy(ledHands.get(i).left, ledHands.get(i).rules);
+    for (int i = 0; i < worth.length; i++) worth[i] = wholeBy(ledHands.get(i).left, rules);
     int sum = 0;
     for (int i = 0; i < worth.length; i++) {
       for (int j = 0; j < worth.length; j++) {

@@ -104,6 +104,13 @@ public final class ShelvesTest {
     Due.due("shift down in one", x.shift(0, 2, 0, 0, 4), 4);
     int[] down = {3, 4, 5, 6, 5, 6};
     for (int i = 0; i < 6; i++) Due.due("as they all were before", x.element(0, i), down[i]);
+    numbers(x, 0, 6);
+    Due.due("shift of some up in one", x.shift(0, 0, 0, 1, 2), 2);
+    int[] some = {1, 1, 2, 4, 5, 6};
+    for (int i = 0; i < 6; i++) Due.due("the rest stays", x.element(0, i), some[i]);
+    Due.due("shift of some down in one", x.shift(0, 3, 0, 0, 2), 2);
+    int[] less = {4, 5, 2, 4, 5, 6};
+    for (int i = 0; i < 6; i++) Due.due("the rest stays", x.element(0, i), less[i]);
     Due.due("shift of all onto itself", x.shift(0, 0, 0, 0, 6), 6);
     Due.due("shift of none at the ends", x.shift(0, 6, 1, 4, 0), 0);
   }
