@@ -765,7 +765,7 @@ public final class CardsGone {
         to.misdealt = true;
         shoe.shuffleDue = true;
       }
-      if (to.plays > 0 && (willBeLed || watches.names(Text.W))) {
+      if (to.plays > 0 && (willBeLed || watches.mentions(Text.W))) {
         judge.load(to.left, rules);
         judge.face(at(to.theirs, 0));
         to.strayed = strays();
@@ -1132,7 +1132,7 @@ public final class CardsGone {
       size = many;
     }
 
-    boolean names(int name) {
+    boolean mentions(int name) {
       for (int i = 0; i < size; i++) {
         if (at(code, i) == FIRST_NAME - name) return true;
       }

@@ -8,6 +8,7 @@ public final class LeftTest {
     rows();
     ruled();
     byWhatIsLeft();
+    likeOnes();
     says();
     Due.end();
   }
@@ -156,6 +157,30 @@ public final class LeftTest {
     Due.due("WORTH of a HAND", x.whole(), model.whole());
     for (int d = 1; d <= 10; d++) Due.due("STAND at 17", x.worth(17, d, 0), model.worth(17, d, 0));
     for (int d = 1; d <= 10; d++) Due.due("COST at 12", x.cost(12, d, 1), model.cost(12, d, 1));
+  }
+
+  /** Behind a MISDEAL two cards are LEFT: by so few the plays are often of like WORTH, and the least is BEST. */
+  private static void likeOnes() {
+    int standAndDraw = 0, drawAndDouble = 0;
+    for (int seed = 0; seed < 400 && (standAndDraw == 0 || drawAndDouble == 0); seed++) {
+      CardsGone x = new CardsGone();
+      x.player(0, 99999, 0);
+      x.shoe(1, 1);
+      x.shoe(2, 95);
+      x.shoe(0, seed);
+      for (int i = 0; i < 14 && x.left(0) != 2; i++) x.play(0, 1);
+      if (x.left(0) != 2) continue;
+      for (int total = 4; total <= 21; total++) {
+        for (int d = 1; d <= 10; d++) {
+          int stand = x.worth(total, d, 0), draw = x.worth(total, d, 1), twice = x.worth(total, d, 2);
+          int most = Math.max(stand, Math.max(draw, twice));
+          if (stand == most && draw == most) standAndDraw++;
+          if (stand < most && draw == most && twice == most) drawAndDouble++;
+          Due.due("BEST of like ones", x.worth(total, d, 3), stand == most ? 0 : draw == most ? 1 : 2);
+        }
+      }
+    }
+    Due.isSo("there were like ones", standAndDraw > 0 && drawAndDouble > 0);
   }
 
   /** The same HANDS are played apart one by one, so that what was LEFT ahead of each can be asked. */

@@ -70,7 +70,7 @@ public final class ModelTest {
           random.nextInt(7) - 3});
     }
     if (random.nextBoolean()) call(named("shoe"), new Object[] {1, 1 + random.nextInt(2)});
-    if (random.nextBoolean()) call(named("shoe"), new Object[] {2, 60 + random.nextInt(36)});
+    if (random.nextBoolean()) call(named("shoe"), new Object[] {2, random.nextBoolean() ? 95 : 60 + random.nextInt(36)});
   }
 
   private Method named(String name) {
@@ -187,7 +187,8 @@ public final class ModelTest {
     switch (name) {
       case "shoe": {
         int what = from(-1, 3);
-        return new int[] {what, what == 0 ? random.nextInt() : what == 1 ? from(0, 9) : from(5, 97)};
+        int packs = random.nextInt(3) == 0 ? from(0, 9) : 1, cut = random.nextInt(3) == 0 ? from(5, 97) : 95;
+        return new int[] {what, what == 0 ? random.nextInt() : what == 1 ? packs : cut};
       }
       case "left": return new int[] {from(-1, 14)};
       case "rule": {

@@ -47,9 +47,9 @@ public final class ShelvesTest {
     Due.due("the ROW stays", x.element(0, 59), 0);
     Due.due("lay() of 0", x.lay(0, 0, 0), 1);
     Due.due("no place", x.element(0, 0), -13);
-    x.put(1, 5, 7);
+    for (int i = 0; i < 10; i++) x.put(1, i, 7);
     x.lay(1, 1, 10);
-    Due.due("0 again", x.element(1, 5), 0);
+    for (int i = 0; i < 10; i++) Due.due("0 again", x.element(1, i), 0);
   }
 
   private static void putAndElement() {

@@ -178,6 +178,7 @@ public final class ShoeTest {
         x.play(0, 1);
         if (x.led(0, 7) == 0) continue;
         found++;
+        Due.due("a MISDEAL", x.led(0, 7), 1);
         Due.due("what a MISDEAL brings", x.led(0, 1), 0);
         Due.due("PURSE then", x.ofPlayer(0, 1), purse);
         Due.due("its points", x.ofPlayer(0, 3), points + 7);

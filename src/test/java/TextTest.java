@@ -124,7 +124,15 @@ public final class TextTest {
     Due.due("p is another", handBy(0, "p=15"), 100);
     Due.due("d", handBy(0, "d=9"), -100);
     Due.due("n", handBy(0, "n=2"), -100);
-    Due.due("a", handBy(0, "a=1"), 100);
+    Due.due("a of a hard one", handBy(0, "a=1"), 100);
+    Due.due("a of a hard one", handBy(0, "a=0"), -100);
+    CardsGone y = new CardsGone();
+    y.player(0, 950, 0);
+    Due.row(y, 0, 1, 9, 6, 10, 3);
+    Due.text(y, 0, "a=1&n=2");
+    Due.due("a of a SOFT one: it draws a 3 to 20", y.hand(0, 0, 0), 100);
+    Due.text(y, 0, "a=0");
+    Due.due("a of a SOFT one: it stands at 17", y.hand(0, 0, 0), -100);
     Due.due("s for SIDE", handBy(3, "s=24"), -100);
     Due.due("s for PLAIN", handBy(1, "s=24"), 100);
   }

@@ -51,9 +51,35 @@ public final class WordsTest {
         }
       }
     }
+    lastCut();
     CardsGone x = like(0, 40, 1);
     int[][] bad = {{1, 1, 0}, {-1, 1, 0}, {0, 0, 0}, {0, 41, 0}, {0, -1, 0}, {0, 1, 2}, {0, 1, -1}};
     for (int[] b : bad) Due.due("deep() that is not as said", x.deep(b[0], b[1], 5, b[2]), Due.VOID);
+  }
+
+  /** Seeds by which the last CUT, or one ahead of it, brings least. */
+  private static void lastCut() {
+    boolean atLast = false;
+    for (int seed = 0; seed < 300 && !atLast; seed++) {
+      CardsGone x = new CardsGone();
+      x.player(0, 9999, 0);
+      x.shoe(1, 1);
+      int[] brought = new int[18];
+      int first = 0;
+      for (int i = 0; i < 18; i++) {
+        CardsGone apart = new CardsGone();
+        apart.player(0, 9999, 0);
+        apart.shoe(1, 1);
+        apart.shoe(2, 10 + 5 * i);
+        apart.shoe(0, seed);
+        brought[i] = apart.play(0, 40);
+        if (brought[i] < brought[first]) first = i;
+      }
+      atLast = first == 17;
+      Due.due("the CUT that brings least", x.deep(0, 40, seed, 0), 10 + 5 * first);
+      Due.due("what it brings then", x.deep(0, 40, seed, 1), brought[first]);
+    }
+    Due.isSo("95 was least by some seed", atLast);
   }
 
   private static void deepLeavesAll() {
@@ -125,6 +151,8 @@ public final class WordsTest {
     CardsGone x = new CardsGone();
     Due.due("without steps", x.together(416, 5415), 410);
     Due.due("one card", x.together(52, 7007), 0);
+    Due.due("the first card", x.together(52, 0), 0);
+    Due.due("all of two", x.together(2, 1), 1);
     x.step(1);
     Due.due("a RIFFLE by 1 of 5, cards 0 .. 2", x.together(5, 2), 4);
     Due.due("a RIFFLE by 1 of 5, cards 2 .. 3", x.together(5, 2003), 3);
