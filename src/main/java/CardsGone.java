@@ -326,9 +326,7 @@ public final class CardsGone {
 
   public long element(int shelf, int i) {
     Shelf from = shelfAt(shelf);
-    if (from == null) return Long.MIN_VALUE;
-    int refusal = from.refusalAt(i);
-    return refusal == 0 ? from.cell(i) : refusal;
+    return from != null && from.refusalAt(i) == 0 ? from.cell(i) : Long.MIN_VALUE;
   }
 
   public int shift(int shelf, int i, int other, int j, int n) {

@@ -933,8 +933,7 @@ final class Model {
   }
 
   public long element(int shelf, int i) {
-    int refusal = refusal(shelf, i);
-    return refusal == BAD ? Long.MIN_VALUE : refusal != 0 ? refusal : ((long[]) shelves[shelf])[i];
+    return refusal(shelf, i) == 0 ? ((long[]) shelves[shelf])[i] : Long.MIN_VALUE;
   }
 
   public int shift(int shelf, int i, int other, int j, int n) {

@@ -38,7 +38,8 @@ public final class ShelvesTest {
     for (int sort = 0; sort <= 4; sort++) {
       Due.due("lay() of 60", x.lay(sort, sort, 60), 1);
       for (int i = 0; i < 60; i++) Due.due("0 at first", x.element(sort, i), 0);
-      Due.due("behind the last", x.element(sort, 60), -13);
+      Due.due("behind the last", x.element(sort, 60), NO);
+      Due.due("nor put there", x.put(sort, 60, 1), -13);
     }
     int[][] bad = {{6, 0, 1}, {-1, 0, 1}, {0, 5, 1}, {0, -1, 1}, {0, 0, 61}, {0, 5, -1}, {6, 0, -1}, {0, 0, Integer.MAX_VALUE}};
     for (int[] b : bad) Due.due("lay() that is not as said", x.lay(b[0], b[1], b[2]), CardsGone.BAD);
@@ -46,7 +47,8 @@ public final class ShelvesTest {
     Due.due("the least size", x.lay(0, 0, Integer.MIN_VALUE), -14);
     Due.due("the ROW stays", x.element(0, 59), 0);
     Due.due("lay() of 0", x.lay(0, 0, 0), 1);
-    Due.due("no place", x.element(0, 0), -13);
+    Due.due("no place", x.element(0, 0), NO);
+    Due.due("nor put there", x.put(0, 0, 1), -13);
     for (int i = 0; i < 10; i++) x.put(1, i, 7);
     x.lay(1, 1, 10);
     for (int i = 0; i < 10; i++) Due.due("0 again", x.element(1, i), 0);
@@ -63,7 +65,7 @@ public final class ShelvesTest {
         {0, Integer.MIN_VALUE, -13}, {0, Integer.MAX_VALUE, -13}};
     for (int[] r : refused) {
       Due.due("put(" + r[0] + ", " + r[1] + ")", x.put(r[0], r[1], 1), r[2]);
-      Due.due("element(" + r[0] + ", " + r[1] + ")", x.element(r[0], r[1]), r[2] == -1 ? NO : r[2]);
+      Due.due("element(" + r[0] + ", " + r[1] + ")", x.element(r[0], r[1]), NO);
     }
   }
 
