@@ -116,7 +116,21 @@ public final class LanguageTest {
 
     @Override public Void visitNewClass(NewClassTree tree, Void none) {
       called(trees.getElement(getCurrentPath()));
+      isMadeAtFirst(tree);
       return super.visitNewClass(tree, none);
+    }
+
+    @Override public Void visitNewArray(NewArrayTree tree, Void none) {
+      isMadeAtFirst(tree);
+      return super.visitNewArray(tree, none);
+    }
+
+    /** All calls of a run live in one room: none of them makes an object. */
+    private void isMadeAtFirst(Tree tree) {
+      TreePath path = getCurrentPath();
+      while (path.getLeaf() != unit && !(path.getLeaf() instanceof MethodTree)) path = path.getParentPath();
+      boolean inMethod = path.getLeaf() instanceof MethodTree;
+      Due.isSo(tree + " is made by a constructor", !inMethod || ((MethodTree) path.getLeaf()).getName().contentEquals("<init>"));
     }
 
     private void called(Element method) {
