@@ -17,6 +17,8 @@ public final class HandEdgesTest {
     misdealAsThePlayerDraws();
     misdealAsOneDoubles();
     misdealAsTheDealerDraws();
+    misdealIsAHand();
+    betOfAMisdealIsTheNextOnesL();
     theLastCardIsNoMisdeal();
     misdealOfARow();
     valuesThatAreNotSo();
@@ -394,6 +396,65 @@ public final class HandEdgesTest {
       }
     }
     Due.isSo("the dealer drew and stood", found >= 3 && stood >= 3);
+  }
+
+  /** "it is a HAND (LED, with points)": w by its plays, l, c and t as it began, what it hides, all that came of the cards. */
+  private static void misdealIsAHand() {
+    String[] watches = {"w*40+l", "w*40+c", "w*40+t/10", "w*40+r+b"};
+    int[] without = {3, 47, 47 * 52 / 5 / 10, 3};
+    for (int play = 0; play <= 2; play++) {
+      boolean strayed = false, best = false;
+      for (int seed = 0; seed < 6000 && !(strayed && best); seed++) {
+        int w = misdealtBy(play, seed, watches[0], without[0]);
+        if (w < 0 || (w == 1 ? strayed : best)) continue;
+        strayed |= w == 1;
+        best |= w == 0;
+        for (int i = 1; i < watches.length; i++) misdealtBy(play, seed, watches[i], without[i]);
+      }
+      Due.isSo("MISDEALS by " + play + " with w and without", strayed && best);
+    }
+  }
+
+  /** w of a MISDEAL that came with the last four cards and one play; -1 if none came. */
+  private static int misdealtBy(int play, int seed, String watches, int without) {
+    CardsGone x = nearTheEnd(0, seed, 48), asked = nearTheEnd(0, seed, 48);
+    if (x == null || asked == null) return -1;
+    Due.textByFours(x, 0, String.valueOf((char) ('0' + play)));
+    Due.textByFours(x, 3, watches);
+    x.play(0, 1);
+    if (x.led(0, 7) == 0 || x.led(0, 4) == 0) return -1;
+    int[] came = {x.led(0, 10), x.led(0, 30), x.led(0, 11), x.led(0, 31)};
+    for (int i = 0; i < 4; i++) Due.due("card " + i, came[i], Due.shuffled(1, seed).get(48 + i));
+    Due.due("two cards of the player", x.led(0, 2), 2);
+    Due.due("two of the dealer, the hidden one, too", x.led(0, 3), 2);
+    Due.due("no third one of the player", x.led(0, 12), Due.VOID);
+    Due.due("no third one of the dealer", x.led(0, 32), Due.VOID);
+    int hard = came[0] + came[2], total = (came[0] == 1 || came[2] == 1) ? 1010 + hard : hard;
+    int w = asked.worth(total, came[1], 3) == play ? 0 : 1;
+    Due.due("t as it began", x.led(0, 5), 47 * 52 / 5);
+    Due.due("w of " + play + " at " + total + " against " + came[1], x.led(0, 8), w);
+    Due.due("points by " + watches, x.led(0, 6), 40 * w + without);
+    Due.due("what it hides", x.hides(), 40 * w);
+    return w;
+  }
+
+  private static void betOfAMisdealIsTheNextOnesL() {
+    int found = 0;
+    for (int seed = 0; seed < 3000 && found < 3; seed++) {
+      CardsGone x = nearTheEnd(0, seed, 48);
+      if (x == null) continue;
+      Due.text(x, 2, "5");
+      Due.text(x, 0, "1");
+      x.play(0, 1);
+      if (x.led(0, 7) == 0) continue;
+      found++;
+      Due.text(x, 2, "7");
+      Due.text(x, 3, "l");
+      x.play(0, 2);
+      Due.due("l behind a MISDEAL", x.led(0, 6), 5);
+      Due.due("l then", x.led(1, 6), 7);
+    }
+    Due.due("MISDEALS", found, 3);
   }
 
   /** With five cards LEFT to take one may draw once. */

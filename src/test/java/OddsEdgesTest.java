@@ -1,3 +1,5 @@
+import java.util.List;
+
 /** Section 3 of the document at its edges; promises 15 to 21. */
 public final class OddsEdgesTest {
   private static final int ONE = 1000000;
@@ -21,6 +23,8 @@ public final class OddsEdgesTest {
     saysOfOneHand();
     saysOfLikeOnes();
     saysOfTwoHands();
+    saysOfLikeWorths();
+    saysByWhatWasLeftThen();
     Due.end();
   }
 
@@ -453,5 +457,61 @@ public final class OddsEdgesTest {
       }
     }
     for (int i = 0; i < 4; i++) Due.isSo("case " + i + " came", came[i]);
+  }
+
+  /** A SEED by which the first four cards are 10s, and behind one SHUFFLE more again. */
+  private static int seedOfTensTwice() {
+    for (int seed = 0; seed < 2000000; seed++) {
+      if (tensComeFirst(seed) && tensComeFirst(Due.zBehind(1, seed))) return seed;
+    }
+    throw new IllegalStateException("no SEED");
+  }
+
+  private static boolean tensComeFirst(int z) {
+    List<Integer> cards = Due.shuffled(1, z);
+    for (int i = 1; i <= 4; i++) if (cards.get(i) != 10) return false;
+    return true;
+  }
+
+  /** HANDS that begin with four 10s SEEN, all LEFT, four 10s SEEN: as TAGS became others, the first and the last have unlike t. */
+  private static void saysOfLikeWorths() {
+    CardsGone x = new CardsGone();
+    x.player(0, 999, 0);
+    Due.text(x, 0, "0");
+    Due.text(x, 1, "1");
+    x.shoe(1, 1);
+    x.shoe(2, 12);
+    x.shoe(0, seedOfTensTwice());
+    x.play(0, 1);
+    int worth = x.whole(), whole = new CardsGone().whole();
+    Due.text(x, 1, "-1");
+    x.play(0, 3);
+    int[] t = {4, 0, -4};
+    for (int h = 0; h < 3; h++) Due.due("t of HAND " + h, x.led(h, 5), t[h]);
+    Due.isSo("WORTH is another one with four 10s SEEN", worth != whole);
+    Due.due("says(): one pair for it, one against it, one of like WORTH", x.says(), 0);
+    x.play(0, 1);
+    Due.due("says() of one", x.says(), 0);
+  }
+
+  /** "(WORTH by what was LEFT then.)": not by what is, as PACKS, CUT, SEED are told behind the call. */
+  private static void saysByWhatWasLeftThen() {
+    CardsGone x = new CardsGone();
+    x.player(0, 9999, 0);
+    Due.text(x, 1, "v=1|v=10?-1;v<7");
+    x.shoe(1, 1);
+    x.shoe(2, 95);
+    x.play(0, 30);
+    int says = x.says();
+    Due.isSo("says() is not 0", says != 0);
+    int[][] told = {{0, 7}, {2, 20}, {1, 1}, {1, 8}};
+    for (int[] t : told) {
+      x.shoe(t[0], t[1]);
+      Due.due("says() behind shoe(" + t[0] + ", " + t[1] + ")", x.says(), says);
+    }
+    Due.text(x, 1, "9");
+    Due.due("says() behind other TAGS", x.says(), says);
+    x.deep(0, 5, 3, 0);
+    Due.due("says() behind deep()", x.says(), says);
   }
 }

@@ -340,10 +340,12 @@ public final class PlayerEdgesTest {
       CardsGone x = with(0, purse, 0);
       Due.text(x, 0, "2");
       Due.text(x, 2, "6");
+      Due.text(x, 3, "r+50");
       Due.deal(x, 10, 10, 6, 9, 10);
       int bet = Math.min(6, purse);
       Due.due("a DOUBLE is lost with PURSE " + purse, x.play(0, 1), -200 * bet);
       Due.due("what it brought is told whole", x.led(0, 1), -200 * bet);
+      Due.due("and is so to WATCHES", x.led(0, 6), 50 - 2 * bet);
       Due.due("PURSE then", x.ofPlayer(0, 1), Math.max(0, purse * 100 - 200 * bet));
     }
   }
@@ -355,9 +357,11 @@ public final class PlayerEdgesTest {
       CardsGone x = with(0, purse, 0);
       Due.text(x, 0, "2");
       Due.text(x, 2, "4");
+      Due.text(x, 3, "r");
       Due.deal(x, 6, 10, 5, 9, 10);
       Due.due("a DOUBLE is won with PURSE " + purse, x.play(0, 1), 800);
       Due.due("what it brought is told whole", x.led(0, 1), 800);
+      Due.due("and is so to WATCHES", x.led(0, 6), 8);
       Due.due("PURSE then", x.ofPlayer(0, 1), Math.min(9999900, purse * 100 + 800));
     }
   }
@@ -427,6 +431,12 @@ public final class PlayerEdgesTest {
     Due.due("LIMIT 9999 at first: HANDS till 9999 points", y.ofPlayer(0, 5), 101);
     Due.due("points", y.ofPlayer(0, 3), 9999);
     Due.due("BARRED at 9999", y.ofPlayer(0, 4), 1);
+    CardsGone z = with(0, 99999, 0);
+    Due.text(z, 3, "98");
+    for (int i = 0; i < 3; i++) z.play(0, 60);
+    Due.due("with 9996 points one HAND more", z.ofPlayer(0, 5), 103);
+    Due.due("points above 9999", z.ofPlayer(0, 3), 10094);
+    Due.due("BARRED above 9999", z.ofPlayer(0, 4), 1);
   }
 
   /** w: "whether some play of that HAND, as it was made, was another one than BEST": each play of two cards in a whole SHOE. */

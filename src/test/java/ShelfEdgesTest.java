@@ -199,6 +199,9 @@ public final class ShelfEdgesTest {
     Due.due("nothing for a ROW", x.keep(0, -1), 1);
     Due.due("element()", x.element(0, 1), NO);
     Due.due("nothing for nothing", x.keep(0, -1), 1);
+    x.lay(0, 1, 0);
+    Due.due("a PLAYER for a ROW of none", x.keep(0, 6), 1);
+    Due.due("taken()", x.taken(0, 0), 6);
     for (int s = 0; s < 3; s++) Due.due("one PLAYER on more than one", x.keep(s, 2), 1);
     for (int s = 0; s < 3; s++) Due.due("it is there", x.taken(s, 1), 2);
     int[] none = {-2, 8, 9, 10, Integer.MIN_VALUE, Integer.MAX_VALUE};

@@ -503,6 +503,9 @@ public final class TextEdgesTest {
     Due.text(y, 2, "c+t+s");
     y.play(0, 1);
     Due.due("ahead of a SHUFFLED one c and t are 0, s all", y.led(0, 0), 24);
+    CardsGone rich = with(0, 99999);
+    Due.text(rich, 2, "b/1111");
+    Due.due("b of five digits", betOf(rich), 90);
   }
 
   private static int betOf(CardsGone x) {
@@ -529,6 +532,14 @@ public final class TextEdgesTest {
     x.play(1, 2);
     Due.due("l without one: another player's does not count", x.led(0, 6), 0);
     Due.due("l then", x.led(1, 6), 3);
+    CardsGone big = new CardsGone();
+    big.player(5, 5000, 0);
+    Due.text(big, 1, "-9");
+    Due.text(big, 2, "6");
+    Due.text(big, 3, "b*10+l");
+    big.play(0, 3);
+    int[] points = {60, 6, 0};
+    for (int h = 0; h < 3; h++) Due.due("b and l of BIG, which bets 0 as t is below CALL", big.led(h, 6), points[h]);
     CardsGone y = with(0, 5000);
     Due.text(y, 3, "r+50");
     y.rule(1, 199);

@@ -394,6 +394,10 @@ public final class WordEdgesTest {
       due[number]++;
     }
     for (int word = 0; word <= 8; word++) Due.due("heard(" + word + ")", x.heard(word), due[word]);
+    x.shoe(1, 1);
+    x.shoe(0, 9);
+    Due.text(x, 1, "1");
+    for (int word = 0; word <= 8; word++) Due.due("heard(" + word + ") as they began, whatever is told", x.heard(word), due[word]);
     for (int i = 0; i < 5; i++) Due.isSo("some t was " + bounds[i], at[i]);
   }
 
