@@ -492,7 +492,7 @@ public final class HandEdgesTest {
 
   /** "or a VALUE is not so": 0, 11 and beyond, at each card that is wanted; a byte of 266 is 10. */
   private static void valuesThatAreNotSo() {
-    int[] cards = {10, 10, 2, 6, 3, 5, 5}, bad = {0, 11, 12, -1, 127, -128, 255, 256, 267};
+    int[] cards = {10, 10, 2, 6, 3, 5, 5}, bad = {0, 11, 12, -1, 127, -128, -127, -118, 129, 138, 255, 256, 267};
     for (int at = 0; at < 7; at++) {
       for (int v : bad) {
         int[] some = cards.clone();

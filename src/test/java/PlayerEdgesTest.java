@@ -19,6 +19,7 @@ public final class PlayerEdgesTest {
     barredFromTheLimitOn();
     limitAsItIs();
     limitAtItsBounds();
+    tellingsLeaveThePlayer();
     strayedByTwoCards();
     strayedByThree();
     strayedByWhatWasLeftAsItBegan();
@@ -437,6 +438,29 @@ public final class PlayerEdgesTest {
     Due.due("with 9996 points one HAND more", z.ofPlayer(0, 5), 103);
     Due.due("points above 9999", z.ofPlayer(0, 3), 10094);
     Due.due("BARRED above 9999", z.ofPlayer(0, 4), 1);
+  }
+
+  /** PURSE and LIMIT told, UNDONE and DONE AGAIN change those alone: l, points, HANDS, CALL, KIND and what is LED stay. */
+  private static void tellingsLeaveThePlayer() {
+    CardsGone x = with(7, 5000, -99);
+    Due.text(x, 0, "0");
+    Due.text(x, 2, "6");
+    Due.text(x, 3, "l+9");
+    x.play(0, 2);
+    x.purse(0, 4000);
+    x.limit(20);
+    x.undo();
+    x.undo();
+    x.redo();
+    x.redo();
+    x.limit(9999);
+    int[] due = {7, 400000, -99, 24, 0, 2};
+    for (int what = 0; what < 6; what++) Due.due("ofPlayer(0, " + what + ")", x.ofPlayer(0, what), due[what]);
+    Due.due("LED stays", x.led(1, 6), 15);
+    Due.deal(x, 10, 10, 9, 9, 10);
+    x.play(0, 1);
+    Due.due("l", x.led(0, 6), 15);
+    Due.due("its third HAND is turned about", x.led(0, 2), 3);
   }
 
   /** w: "whether some play of that HAND, as it was made, was another one than BEST": each play of two cards in a whole SHOE. */

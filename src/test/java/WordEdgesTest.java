@@ -175,6 +175,19 @@ public final class WordEdgesTest {
         x.limit(60);
       }, 0, 40, seed);
     }
+    int beyond = 0;
+    for (int seed = 0; seed < 20; seed++) {
+      int one = seed;
+      Twins.Made made = x -> {
+        x.player(0, 3, 0);
+        x.shoe(1, 1);
+        Due.textByFours(x, 0, "2");
+        Due.textByFours(x, 2, "3");
+      };
+      isDeep("a DOUBLE that is more than PURSE, seed " + seed, made, 0, 1, one);
+      if (brings(made, 0, 1, one, 10) == -600) beyond++;
+    }
+    Due.isSo("some lost more than PURSE", beyond > 2);
     isDeep("BIG by its CALL", x -> {
       x.player(5, 500, 2);
       x.shoe(1, 1);
